@@ -13,7 +13,7 @@ public final class MonitorYard {
     private static final int MOST_PATIENCE = 100;
     private static final int MOST_TICKS = 50;
     private static final int ENDLESS = -1;
-    private static final int NOBODY = -1;
+    private static final int NONE = -1;
 
     private static final int LOCK = 0;
     private static final int BOOK = 1;
@@ -135,7 +135,7 @@ public final class MonitorYard {
             case 1:
                 return thread.outcome;
             case 2:
-                return thread.place == null ? NOBODY : thread.place.number;
+                return thread.place == null ? NONE : thread.place.number;
             case 3:
                 return thread.value;
             case 4:
@@ -298,7 +298,7 @@ public final class MonitorYard {
     }
 
     private static int numberOf(YardThread thread) {
-        return thread == null ? NOBODY : thread.number;
+        return thread == null ? NONE : thread.number;
     }
 
     /** A THREAD, with its latest ACT. */
@@ -851,7 +851,7 @@ public final class MonitorYard {
         }
 
         int sortOf(int act) {
-            return act == PUT ? 0 : 1;
+            return act == TAKE_FIRST ? 1 : 0;
         }
 
         boolean canBe(YardThread thread) {

@@ -51,6 +51,17 @@ public final class Promise03QueueTest {
             told(2, 3) -> 4
             counts -> 1 8 0 0 0 0 6
             """);
+        runs.run("takes in the row don't hold up a put for a moment", """
+            make(5, 1) -> 0
+            act(0, 0, 16, 0, -1) -> 1
+            act(1, 0, 16, 0, -1) -> 1
+            act(2, 0, 15, 5, 0) -> 0
+            interrupt(2)
+            act(2, 0, 15, 6, -1) -> 0
+            thread 2 -> 0 0 -1 0 1 -1
+            told(0, 3) -> 5
+            told(1, 3) -> 6
+            """);
         runs.run("what an impatient putter wanted to put is gone with it", """
             make(5, 1) -> 0
             act(0, 0, 15, 1, -1) -> 0

@@ -102,6 +102,18 @@ public final class Promise04TickTest {
             thread 1 -> 1 1 0 0 0 -1
             object 0 -> 0 1 0 1 0 0 0 0
             """);
+        runs.run("having timed out once says nothing of the next act", """
+            make(0, 1) -> 0
+            act(0, 0, 0, 0, -1) -> 0
+            act(0, 0, 2, 0, 1) -> 1
+            tick(1) -> 1
+            told(0, 1) -> 2
+            act(0, 0, 1, 0, -1) -> 0
+            act(1, 0, 0, 0, -1) -> 0
+            act(0, 0, 0, 0, -1) -> 1
+            act(1, 0, 1, 0, -1) -> 0
+            thread 0 -> 0 0 -1 0 0 -1
+            """);
         runs.run("one that was called in time doesn't time out any more", """
             make(0, 1) -> 0
             act(0, 0, 0, 0, -1) -> 0
