@@ -16,36 +16,64 @@ import java.util.List;
  * # words behind a number sign are passed over
  * </pre>
  *
- * A call that throws, and one that only asks, must leave all that the yard tells as it was.
+ * A call that throws, and one that only asks, must change nothing: neither what a yard tells right
+ * behind it (looked at on yards of their own, for a yard is good for 512 calls), nor the answers of
+ * the calls behind it (the run is made again without such calls).
  */
 final class Runs {
     private final String title;
+    private String heading = "";
+    private boolean headingHasRun = true;
     private int lines;
     private int wrong;
+
+    private MonitorYard yard;
+    private int cost;
+    private List<Call> changes;
+    private List<String> answers;
 
     Runs(String title) {
         this.title = title;
     }
 
+    /** The sentence of the document that the runs behind it are a test of. */
+    void sentence(String words) {
+        requireRunsOfHeading();
+        if (Document.isThere() && !Document.has(words)) {
+            complain(title + ": the document doesn't say: " + words);
+        }
+        heading = ", \"" + words + "\"";
+        headingHasRun = false;
+    }
+
     void run(String name, String text) {
-        MonitorYard yard = new MonitorYard();
+        headingHasRun = true;
+        yard = new MonitorYard();
+        cost = 0;
+        changes = new ArrayList<>();
+        answers = new ArrayList<>();
         int number = 0;
         for (String raw : text.split("\n")) {
             number++;
             String line = raw.replaceAll("#.*", "").trim();
             if (!line.isEmpty()) {
-                runLine(yard, line, title + ", " + name + ", line " + number);
+                runLine(line, title + heading + ", " + name + ", line " + number);
             }
         }
+        if (cost > Call.MOST_OF_A_YARD) {
+            complain(title + heading + ", " + name + ": a yard is used for 512 calls at most");
+        }
+        requireSameAnswersOfChangesAlone(title + heading + ", " + name);
     }
 
     /** Ends the program, with exit code 1 if an answer was not the one that was due. */
     void finish() {
+        requireRunsOfHeading();
         System.out.println(title + ": " + lines + " lines, " + wrong + " wrong");
         System.exit(wrong == 0 && lines > 0 ? 0 : 1);
     }
 
-    private void runLine(MonitorYard yard, String line, String where) {
+    private void runLine(String line, String where) {
         String[] sides = line.split("->");
         String call = sides[0].trim();
         String due = sides.length > 1 ? sides[1].trim() : "";
@@ -55,80 +83,65 @@ final class Runs {
             call = call.substring(call.indexOf('x') + 1).trim();
         }
         for (int i = 0; i < times; i++) {
-            check(yard, call, due, where);
+            check(new Call(call), due, where);
         }
     }
 
-    private void check(MonitorYard yard, String call, String due, String where) {
+    private void check(Call call, String due, String where) {
         lines++;
-        String before = Snapshot.of(yard);
-        String got;
-        boolean keeps = !call.matches("(make|act|tick|interrupt)\\(.*");
-        try {
-            got = answer(yard, call);
-        } catch (RuntimeException e) {
-            got = "throws." + e.getClass().getSimpleName();
-            keeps = true;
-        }
+        cost += call.cost();
+        String got = call.answerOn(yard);
         if (!got.equals(due)) {
             complain(where + ": " + call + " answered " + got + ", due is " + due);
         }
-        String after = Snapshot.of(yard);
-        if (keeps && !before.equals(after)) {
+        if (call.onlyAsks() || got.startsWith("throws.")) {
+            requireNoChange(call, where);
+        } else {
+            changes.add(call);
+            answers.add(got);
+        }
+    }
+
+    private void requireNoChange(Call call, String where) {
+        if (changes.size() + call.cost() + View.COST > Call.MOST_OF_A_YARD) {
+            return;
+        }
+        String before = whatIsTold(Call.yardAfter(changes));
+        MonitorYard touched = Call.yardAfter(changes);
+        call.answerOn(touched);
+        String after = whatIsTold(touched);
+        if (!before.equals(after)) {
             complain(where + ": " + call + " changed\n" + before + "into\n" + after);
+        }
+    }
+
+    private static String whatIsTold(MonitorYard yard) {
+        try {
+            return new View(yard).toString();
+        } catch (RuntimeException e) {
+            return "throws." + e.getClass().getSimpleName();
+        }
+    }
+
+    private void requireSameAnswersOfChangesAlone(String where) {
+        MonitorYard again = new MonitorYard();
+        for (int i = 0; i < changes.size(); i++) {
+            String got = changes.get(i).answerOn(again);
+            if (!got.equals(answers.get(i))) {
+                complain(where + ": " + changes.get(i) + " answered " + answers.get(i) + ", but " + got
+                    + " without the calls that threw or only asked");
+            }
+        }
+    }
+
+    private void requireRunsOfHeading() {
+        if (!headingHasRun) {
+            complain(title + heading + ": no run is a test of it");
         }
     }
 
     private void complain(String words) {
         wrong++;
         System.out.println(words);
-    }
-
-    private static String answer(MonitorYard yard, String call) {
-        String name = call.split("[ (]")[0];
-        int[] n = numbers(call);
-        switch (name) {
-            case "make":
-                return String.valueOf(yard.make(n[0], n[1]));
-            case "act":
-                return String.valueOf(yard.act(n[0], n[1], n[2], n[3], n[4]));
-            case "tick":
-                return String.valueOf(yard.tick(n[0]));
-            case "interrupt":
-                yard.interrupt(n[0]);
-                return "";
-            case "told":
-                return String.valueOf(yard.told(n[0], n[1]));
-            case "object":
-                return call.contains("(") ? String.valueOf(yard.object(n[0], n[1])) : Snapshot.object(yard, n[0]);
-            case "waiter":
-                return String.valueOf(yard.waiter(n[0], n[1]));
-            case "stuck":
-                return String.valueOf(yard.stuck());
-            case "count":
-                return String.valueOf(yard.count(n[0]));
-            case "thread":
-                return Snapshot.thread(yard, n[0]);
-            case "row":
-                return Snapshot.row(yard, n[0]);
-            case "counts":
-                return Snapshot.counts(yard);
-            default:
-                throw new AssertionError("no such call: " + call);
-        }
-    }
-
-    private static int[] numbers(String call) {
-        List<Integer> found = new ArrayList<>();
-        for (String part : call.split("[^-0-9]+")) {
-            if (!part.isEmpty()) {
-                found.add(Integer.parseInt(part));
-            }
-        }
-        int[] numbers = new int[found.size()];
-        for (int i = 0; i < numbers.length; i++) {
-            numbers[i] = found.get(i);
-        }
-        return numbers;
     }
 }
