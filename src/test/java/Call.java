@@ -19,8 +19,8 @@ final class Call {
     }
 
     /** A yard on which these calls have been made. */
-    static MonitorYard yardAfter(List<Call> calls) {
-        MonitorYard yard = new MonitorYard();
+    static Yard yardAfter(List<Call> calls) {
+        Yard yard = Yard.ofClass();
         for (Call call : calls) {
             call.answerOn(yard);
         }
@@ -40,7 +40,7 @@ final class Call {
     }
 
     /** What it answers, or throws.NameOfTheException. */
-    String answerOn(MonitorYard yard) {
+    String answerOn(Yard yard) {
         try {
             return answer(yard, numbers);
         } catch (RuntimeException e) {
@@ -48,7 +48,7 @@ final class Call {
         }
     }
 
-    private String answer(MonitorYard yard, int[] n) {
+    private String answer(Yard yard, int[] n) {
         switch (name) {
             case "make":
                 return String.valueOf(yard.make(n[0], n[1]));

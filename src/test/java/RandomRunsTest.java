@@ -1,6 +1,5 @@
 import java.util.ArrayList;
 import java.util.List;
-import java.util.Random;
 
 /**
  * Long random runs, with good and bad numbers: nothing but what the document names is thrown, a
@@ -11,18 +10,17 @@ import java.util.Random;
 public final class RandomRunsTest {
     private static final int RUNS = 250;
     private static final int CALLS = Call.MOST_OF_A_YARD - View.COST;
-    private static final int[] FIRST_ACT = {0, 5, 9, 11, 13, 15, 17};
     private static final List<String> MAY_BE_THROWN = List.of("throws.IllegalArgumentException",
-        "throws.IllegalStateException", "throws.UnsupportedOperationException");
+        "throws.IllegalStateException", "throws.UnsupportedOperationException", "throws.NoSuchElementException");
 
-    private final Random random;
+    private final AnyCalls anyCalls;
     private final List<Call> calls = new ArrayList<>();
     private final int[] sizes = new int[6];
-    private View view = new View(new MonitorYard());
+    private View view = new View(Yard.ofClass());
     private int begun;
 
     private RandomRunsTest(int seed) {
-        random = new Random(seed);
+        anyCalls = new AnyCalls(seed);
     }
 
     public static void main(String[] args) {
@@ -40,8 +38,8 @@ public final class RandomRunsTest {
 
     private void run() {
         for (int i = 0; i < CALLS; i++) {
-            Call call = new Call(anyCall());
-            MonitorYard yard = Call.yardAfter(calls);
+            Call call = anyCalls.next(view);
+            Yard yard = Call.yardAfter(calls);
             String answer = call.answerOn(yard);
             View after = new View(yard);
             if (answer.startsWith("throws.")) {
@@ -54,35 +52,6 @@ public final class RandomRunsTest {
                 checkView();
             }
         }
-    }
-
-    private String anyCall() {
-        int choice = random.nextInt(100);
-        if (choice < 6) {
-            return "make(" + (random.nextInt(8) - 1) + ", " + random.nextInt(5) + ")";
-        }
-        if (choice < 14) {
-            int n = random.nextInt(20) == 0 ? random.nextInt(54) - 1 : 1 + random.nextInt(3);
-            return "tick(" + n + ")";
-        }
-        if (choice < 22) {
-            return "interrupt(" + (random.nextInt(30) == 0 ? 6 : random.nextInt(6)) + ")";
-        }
-        return anyAct(choice < 26);
-    }
-
-    private String anyAct(boolean wild) {
-        int objects = view.counts[0];
-        int t = random.nextInt(wild ? 7 : 6);
-        int o = wild || objects == 0 ? random.nextInt(7) : random.nextInt(objects);
-        int act = random.nextInt(19) - 1;
-        if (!wild && o < objects) {
-            int kind = view.objects[o][0];
-            act = FIRST_ACT[kind] + random.nextInt(FIRST_ACT[kind + 1] - FIRST_ACT[kind]);
-        }
-        int arg = random.nextInt(wild ? 5 : 2) + (act == 9 || act == 10 ? random.nextInt(3) : 0);
-        int patience = wild ? random.nextInt(104) - 2 : random.nextInt(12) - 1;
-        return "act(" + t + ", " + o + ", " + act + ", " + arg + ", " + patience + ")";
     }
 
     private void noteWhatWasDone(String call, String answer) {

@@ -27,7 +27,7 @@ final class Runs {
     private int lines;
     private int wrong;
 
-    private MonitorYard yard;
+    private Yard yard;
     private int cost;
     private List<Call> changes;
     private List<String> answers;
@@ -48,7 +48,7 @@ final class Runs {
 
     void run(String name, String text) {
         headingHasRun = true;
-        yard = new MonitorYard();
+        yard = Yard.ofClass();
         cost = 0;
         changes = new ArrayList<>();
         answers = new ArrayList<>();
@@ -107,7 +107,7 @@ final class Runs {
             return;
         }
         String before = whatIsTold(Call.yardAfter(changes));
-        MonitorYard touched = Call.yardAfter(changes);
+        Yard touched = Call.yardAfter(changes);
         call.answerOn(touched);
         String after = whatIsTold(touched);
         if (!before.equals(after)) {
@@ -115,7 +115,7 @@ final class Runs {
         }
     }
 
-    private static String whatIsTold(MonitorYard yard) {
+    private static String whatIsTold(Yard yard) {
         try {
             return new View(yard).toString();
         } catch (RuntimeException e) {
@@ -124,7 +124,7 @@ final class Runs {
     }
 
     private void requireSameAnswersOfChangesAlone(String where) {
-        MonitorYard again = new MonitorYard();
+        Yard again = Yard.ofClass();
         for (int i = 0; i < changes.size(); i++) {
             String got = changes.get(i).answerOn(again);
             if (!got.equals(answers.get(i))) {

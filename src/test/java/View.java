@@ -12,7 +12,7 @@ final class View {
     final int[][] rows;
     final int stuck;
 
-    View(MonitorYard yard) {
+    View(Yard yard) {
         for (int t = 0; t < threads.length; t++) {
             threads[t] = thread(yard, t);
         }
@@ -26,7 +26,7 @@ final class View {
         stuck = yard.stuck();
     }
 
-    static int[] thread(MonitorYard yard, int t) {
+    static int[] thread(Yard yard, int t) {
         int[] answers = new int[6];
         for (int what = 0; what < answers.length; what++) {
             answers[what] = yard.told(t, what);
@@ -34,7 +34,7 @@ final class View {
         return answers;
     }
 
-    static int[] object(MonitorYard yard, int o) {
+    static int[] object(Yard yard, int o) {
         int[] answers = new int[8];
         for (int what = 0; what < answers.length; what++) {
             answers[what] = yard.object(o, what);
@@ -43,7 +43,7 @@ final class View {
     }
 
     /** The threads in the row, asked for one by one until there is none. */
-    static int[] row(MonitorYard yard, int o) {
+    static int[] row(Yard yard, int o) {
         int[] answers = new int[7];
         for (int i = 0; i < answers.length; i++) {
             try {
@@ -55,7 +55,7 @@ final class View {
         return answers;
     }
 
-    static int[] counts(MonitorYard yard) {
+    static int[] counts(Yard yard) {
         int[] answers = new int[7];
         for (int what = 0; what < answers.length; what++) {
             answers[what] = yard.count(what);
