@@ -9,8 +9,9 @@ import java.util.TreeMap;
 import java.util.TreeSet;
 
 /**
- * The document read a second time, without a look at the class: slow, and as near to its words as
- * can be. Where the class and this differ, one of the two doesn't do what the document says.
+ * The document written down a second time, in another build than the class: slow, and as near to the
+ * words as can be. Where the two differ, one of them doesn't do what the document says. Both are by
+ * the same hand, so that they may misread it alike: that they agree is no proof.
  */
 final class SecondReading implements Yard {
     private static final int DONE = 0;
